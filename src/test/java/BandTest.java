@@ -186,6 +186,14 @@ public final class BandTest {
         v.contest(1);
         markAll(v, new int[] {0, 1}, new int[] {5, 5, 9, 9}, new int[] {9, 9, 5, 5});
         CHECK.answers(0, "the judge 3 tells ahead of piping", () -> v.close());
+        Dronegrade u = banded(1, 1);
+        u.contest(1);
+        markAll(u, new int[] {0, 1}, new int[] {9, 5, 9, 5}, new int[] {5, 9, 5, 9});
+        CHECK.answers(1, "the judge 3 tells, not 2", () -> u.close());
+        Dronegrade t = banded(1, 1);
+        t.contest(1);
+        markAll(t, new int[] {0, 1}, new int[] {9, 5, 5, 9}, new int[] {5, 9, 9, 5});
+        CHECK.answers(0, "the judge 3 tells, not 2, the other way", () -> t.close());
     }
 
     private static void promise24WrongState() {

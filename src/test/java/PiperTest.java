@@ -78,6 +78,8 @@ public final class PiperTest {
         CHECK.refuses(BAD, "by -101, though the seat would be right", () -> x.seat(0, -101));
         CHECK.answers(0, "seat by -100", () -> x.seat(0, -100));
         CHECK.answers(-100, "seat by -100 again", () -> x.seat(0, -100));
+        CHECK.answers(0, "seat by 100", () -> x.seat(0, 100));
+        CHECK.answers(-100, "seat by -100 once more", () -> x.seat(0, -100));
         CHECK.refuses(BAD, "seat below -100", () -> x.seat(0, -1));
         CHECK.refuses(BAD, "by 101, though the seat would be right", () -> x.seat(0, 101));
         tells(x, "the seat stays", 0, -60, 0, -100);
@@ -224,6 +226,7 @@ public final class PiperTest {
         toMiddle(pitched(30, 20, 27, 25), "of four the second", -5, 5, -2, 0);
         toMiddle(pitched(9, 9, 9, 1, 20), "alike ones each by itself", 0, 0, 0, 8, -11);
         toMiddle(pitched(9, 9, 1, 1, 20, 30), "of six the third", 0, 0, 8, 8, -11, -21);
+        toMiddle(pitched(8, 7, 6, 5, 4, 3, 2, 1), "of eight the fourth", -4, -3, -2, -1, 0, 1, 2, 3);
         Dronegrade x = pitched(30, 20, 27);
         x.rest(2, true);
         toMiddle(x, "told of one who rests, who is not counted", -10, 0, -7);
@@ -309,6 +312,9 @@ public final class PiperTest {
         CHECK.answers(13, "nor the spread", () -> x.spread());
         CHECK.answers(true, "nor who rests", () -> x.rest(2, true));
         CHECK.answers(76, "the minutes then", () -> x.play(12, 0, 12));
+        x.rest(2, false);
+        CHECK.answers((100 + 80 + 3 - 3) - (8 + 3 + 40 + 33 - 100), "each has a pressure of its own", () -> x.ahead(1, 3, 11));
+        x.rest(2, true);
         x.rest(0, true);
         x.rest(1, true);
         CHECK.answers(0, "nobody plays", () -> x.ahead(120, 9, 40));

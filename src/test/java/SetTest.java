@@ -8,6 +8,7 @@ public final class SetTest {
     public static void main(String[] args) {
         promise9Tempi();
         promise9Notes();
+        promise9OneNote();
         promise9WrongInputs();
         promise9LooksAsItIsPutIn();
         promise10Drop();
@@ -50,6 +51,15 @@ public final class SetTest {
         CHECK.answers(3, "plain, with another height", () -> x.follow(plain5, 80));
         CHECK.refuses(STATE, "itself behind itself", () -> x.follow(plain5, 80));
         CHECK.answers(4, "plain, the first height is not the last one", () -> x.follow(endsOn5, 80));
+    }
+
+    private static void promise9OneNote() {
+        Dronegrade x = new Dronegrade();
+        x.tune(Dronegrade.MARCH);
+        x.note(0, 5, 8, Dronegrade.PLAIN);
+        x.part(0, false);
+        CHECK.answers(1, "one note is something", () -> x.follow(0, 30));
+        CHECK.refuses(STATE, "its one note is the first and the last one", () -> x.follow(0, 30));
     }
 
     private static void promise9WrongInputs() {

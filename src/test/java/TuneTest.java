@@ -322,6 +322,9 @@ public final class TuneTest {
         alike(y, 3, 4, 5);
         jigOf(y, "23", false);
         alike(y, 1, 5, 6);
+        jigOf(y, "57", false);
+        jigOf(y, "76", false);
+        alike(y, 1, 7, 8);
     }
 
     private static void promises7And8LongTunes() {
