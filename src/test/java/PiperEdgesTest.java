@@ -513,6 +513,12 @@ public final class PiperEdgesTest {
         CHECK.answers(Dronegrade.NONE, "one plays", x::odd);
         x.rest(3, true);
         CHECK.answers(Dronegrade.NONE, "nobody plays", x::odd);
+        Dronegrade y = pitched(70, 50, 50, 50);
+        y.rest(0, true);
+        CHECK.answers(1, "one who rests is not the lowest of several alike", y::odd);
+        Dronegrade z = pitched(70, 50, 90, 90, 50);
+        z.rest(0, true);
+        CHECK.answers(1, "nor of several without whom the spread is as it was", z::odd);
     }
 
     private static void toMiddle(String what, Dronegrade x, int... due) {

@@ -348,7 +348,10 @@ public final class RefusedCallsTest {
             refused(BAD, "band of grade " + grade, RefusedCallsTest::begun, x -> x.band(grade));
             refused(BAD, "band 9 of grade " + grade, RefusedCallsTest::fullOfOthers, x -> x.band(grade));
         }
-        refused(STATE, "band 9", RefusedCallsTest::fullOfOthers, x -> x.band(1));
+        for (int grade = 1; grade <= 5; grade++) {
+            int of = grade;
+            refused(STATE, "band 9, of grade " + of, RefusedCallsTest::fullOfOthers, x -> x.band(of));
+        }
     }
 
     private static void contest() {
@@ -388,10 +391,11 @@ public final class RefusedCallsTest {
         refused(STATE, "no contest", RefusedCallsTest::betweenContests, x -> x.mark(0, 1, 50));
         refused(STATE, "a band of another grade", RefusedCallsTest::begun, x -> x.mark(0, 2, 50));
         refused(STATE, "a band that came too late", RefusedCallsTest::begun, x -> x.mark(0, 4, 50));
-        refused(STATE, "there already, by 0", RefusedCallsTest::begun, x -> x.mark(0, 0, 51));
+        refused(STATE, "there already, by 0", RefusedCallsTest::begun, x -> x.mark(0, 0, 0));
         refused(STATE, "there already, by 3, and 0", RefusedCallsTest::begun, x -> x.mark(3, 1, 100));
         refused(STATE, "there already, and the same", RefusedCallsTest::begun, x -> x.mark(3, 1, 0));
-        refused(STATE, "all are there", RefusedCallsTest::fullOfOthers, x -> x.mark(3, 7, 100));
+        refused(STATE, "all are there, a higher one", RefusedCallsTest::fullOfOthers, x -> x.mark(3, 0, 100));
+        refused(STATE, "all are there, a lower one", RefusedCallsTest::fullOfOthers, x -> x.mark(0, 7, 0));
     }
 
     private static void close() {

@@ -149,11 +149,23 @@ final class Twins {
         }
     }
 
+    /** Leaves out the marks that are there in most cases: to be refused them once more could cover something up. */
+    private void handMissingMarksIn() {
+        for (int i = 1; i < 36; i++) {
+            int judge = i % 4;
+            int band = i / 4;
+            if (judge != 3 || band != 1) {
+                add(() -> x.mark(judge, band, band * judge % 7 + 44));
+            }
+        }
+    }
+
     private void markOn() {
         askBands();
         add(x::close);
         add(x::season);
-        handMarksIn(44);
+        askBands();
+        handMissingMarksIn();
         add(x::close);
         askBands();
         add(x::season);
