@@ -499,8 +499,19 @@ public final class Dronegrade {
         }
 
         private boolean canTake(int height, int length, int grace) {
-            int leftInBar = barUnits() - openUnits % barUnits();
+            int leftInBar = barUnits() - unitsInOpenBar();
             return writtenCount < MOST_NOTES && length <= leftInBar && isLawful(height, grace);
+        }
+
+        private int openBars() {
+            int bar = barUnits();
+            return bar < 1 ? 0 : openUnits / bar;
+        }
+
+        /** 0 if the open notes fill whole bars. */
+        private int unitsInOpenBar() {
+            int bar = barUnits();
+            return bar < 1 ? 0 : openUnits % bar;
         }
 
         private boolean isLawful(int height, int grace) {
@@ -546,7 +557,7 @@ public final class Dronegrade {
         }
 
         private boolean canEndPart() {
-            return partCount < MOST_PARTS && firstOpen < writtenCount && openUnits % barUnits() == 0;
+            return partCount < MOST_PARTS && firstOpen < writtenCount && unitsInOpenBar() == 0;
         }
 
         private int endPart(boolean isRepeated) {
@@ -557,7 +568,7 @@ public final class Dronegrade {
             if (isRepeated) {
                 playOpenNotes();
             }
-            int bars = openUnits / barUnits();
+            int bars = openBars();
             firstOpen = writtenCount;
             openUnits = 0;
             partCount++;

@@ -131,11 +131,18 @@ public final class FaceTest {
                 open.add(method.getName());
             }
         }
-        for (Method method : Dronegrade.class.getDeclaredMethods()) {
+        addNamesTwice(Dronegrade.class, open, twice);
+        for (Class<?> inside : Dronegrade.class.getDeclaredClasses()) {
+            addNamesTwice(inside, open, twice);
+        }
+        return twice;
+    }
+
+    private static void addNamesTwice(Class<?> in, TreeSet<String> open, TreeSet<String> twice) {
+        for (Method method : in.getDeclaredMethods()) {
             if (Modifier.isPrivate(method.getModifiers()) && open.contains(method.getName())) {
                 twice.add(method.getName());
             }
         }
-        return twice;
     }
 }
